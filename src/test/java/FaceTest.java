@@ -39,8 +39,8 @@ public final class FaceTest {
             Checks.due("a private method " + name, hidden.contains(name), false);
         }
         for (Field field : house.getDeclaredFields()) {
-            boolean open1 = !Modifier.isPrivate(field.getModifiers());
-            Checks.due("open field " + field.getName(), open1, field.getName().equals("NONE"));
+            boolean isOpen = !Modifier.isPrivate(field.getModifiers());
+            Checks.due("open field " + field.getName(), isOpen, field.getName().equals("NONE"));
         }
         Constructor<?>[] makers = house.getDeclaredConstructors();
         Checks.due("constructors", makers.length, 1);

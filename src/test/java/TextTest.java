@@ -102,6 +102,11 @@ public final class TextTest {
         faulty("when fine > 1 go", 2, 5);
         faulty("when runn > 1 go", 2, 5);
         faulty("when ru > 1 go", 2, 5);
+        faulty("when az > 1 go", 2, 5);
+        faulty("when `a > 1 go", 1, 5);
+        faulty("when a{ > 1 go", 2, 5);
+        faulty("when run > 1/ go", 1, 12);
+        faulty("when run > 9: go", 1, 12);
         faulty("when abcdefgh > 1 go", 2, 5);
         faulty("when abcdefghi > 1 go", 1, 5);
         faulty("abcdefghi", 1, 0);
