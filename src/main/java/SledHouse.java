@@ -107,16 +107,17 @@ public final class SledHouse {
         return allow();
     }
 
+    /** No number of TROUBLE is named for this call: its NONE leaves TROUBLE as it was, and so do its bytes. */
     public int feed(int a, int b, int c, int d, int e) {
         if (tape.size + 20 > MOST_BYTES) {
-            return refuse(NO_ROOM);
+            return NONE;
         }
         tape.put(a);
         tape.put(b);
         tape.put(c);
         tape.put(d);
         tape.put(e);
-        return grant(tape.size);
+        return tape.size;
     }
 
     public int plan(int n) {

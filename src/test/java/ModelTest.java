@@ -633,7 +633,7 @@ public final class ModelTest {
             for (int i = 0; i < 20; i++) {
                 words[i / 4] = words[i / 4] << 8 | twenty.charAt(i);
             }
-            int want = tape.length() == 400 ? no(3) : yes(tape.length() + 20);
+            int want = tape.length() == 400 ? -1 : tape.length() + 20;
             if (want > 0) {
                 tape.append(twenty);
             }

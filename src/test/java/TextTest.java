@@ -10,15 +10,17 @@ public final class TextTest {
         faultyLaws();
         manyLaws();
         latestCall();
+        feedAndTrouble();
         Checks.end("TextTest");
     }
 
     private static void tape() {
         SledHouse x = new SledHouse();
         for (int i = 1; i <= 20; i++) {
-            Checks.granted(x, "feed", x.feed(0x676f2020, 0x20202020, 0x20202020, 0x20202020, 0x20200a20), 20 * i);
+            Checks.due("feed", x.feed(0x676f2020, 0x20202020, 0x20202020, 0x20202020, 0x20200a20), 20 * i);
         }
-        Checks.refused(x, "feed beyond 400", x.feed(0, 0, 0, 0, 0), 3);
+        Checks.due("feed beyond 400", x.feed(0, 0, 0, 0, 0), -1);
+        Checks.due("trouble() of no call", x.trouble(), 0);
         Checks.due("count(6)", x.count(6), 400);
         Checks.refused(x, "plan(401)", x.plan(401), 2);
         Checks.refused(x, "plan(-1)", x.plan(-1), 2);
@@ -269,9 +271,42 @@ public final class TextTest {
         Checks.due("fault()", x.fault(), 0);
         Checks.laws(x, "dogs");
         Checks.due("fault()", x.fault(), 1);
-        Checks.tape(x, "go");
-        Checks.due("where() behind feed", x.where(), -1);
-        Checks.due("fault()", x.fault(), 1);
-        Checks.due("trouble()", x.trouble(), 0);
+    }
+
+    /** feed() is no call that may be refused: what was told of the latest one stays, with bytes or with NONE. */
+    private static void feedAndTrouble() {
+        SledHouse x = new SledHouse();
+        x.leg(0, 0);
+        feedKeeps(x, 2, 0, -1);
+        x = new SledHouse();
+        x.leg(0, 0);
+        x.leg(10, 100);
+        feedKeeps(x, 0, 0, -1);
+        x = new SledHouse();
+        x.follow(0, 0);
+        feedKeeps(x, 1, 0, -1);
+        x = new SledHouse();
+        x.run(1);
+        feedKeeps(x, 5, 0, -1);
+        x = new SledHouse();
+        Checks.plan(x, "when foo");
+        feedKeeps(x, 4, 2, 5);
+        x = new SledHouse();
+        Checks.laws(x, "dogs");
+        feedKeeps(x, 4, 1, 4);
+        x = new SledHouse();
+        for (int i = 0; i < 9; i++) {
+            Checks.plan(x, "go");
+        }
+        feedKeeps(x, 3, 0, -1);
+    }
+
+    private static void feedKeeps(SledHouse x, int trouble, int fault, int place) {
+        for (int i = 1; i <= 21; i++) {
+            Checks.due("feed " + i, x.feed(0x676f2020, 0, 0, 0, 0), i <= 20 ? 20 * i : -1);
+            Checks.due("trouble() behind feed " + i, x.trouble(), trouble);
+            Checks.due("fault() behind feed " + i, x.fault(), fault);
+            Checks.due("where() behind feed " + i, x.where(), place);
+        }
     }
 }
