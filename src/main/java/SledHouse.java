@@ -53,6 +53,7 @@ public final class SledHouse {
     private static final int ABOVE = 4;
     private static final int SEMICOLON = 5;
     private static final int NO_TOKEN = 6;
+    private static final int BLANK = 7;
 
     private static final int REST_AT = 0;
     private static final int REST_FROM_TO = 1;
@@ -291,7 +292,11 @@ public final class SledHouse {
 
     public int place(int i) {
         for (int team = 0; team < now.teamCount; team++) {
-            if (placeOf(team) == i) {
+            int ahead = 0;
+            for (int other = 0; other < now.teamCount; other++) {
+                ahead += isAhead(other, team) ? 1 : 0;
+            }
+            if (ahead == i) {
                 return team;
             }
         }
@@ -448,16 +453,6 @@ public final class SledHouse {
         now.steps = step + 1;
     }
 
-    private int placeOf(int team) {
-        int ahead = 0;
-        for (int other = 0; other < now.teamCount; other++) {
-            if (other != team && isAhead(other, team)) {
-                ahead++;
-            }
-        }
-        return ahead;
-    }
-
     private boolean isAhead(int one, int other) {
         int groups = Integer.compare(groupOf(one), groupOf(other));
         if (groups != 0) {
@@ -561,52 +556,35 @@ public final class SledHouse {
         }
 
         void advance() {
-            while (next < end && isBlank(bytes[next])) {
+            while (next < end && kindOf(bytes[next]) == BLANK) {
                 next++;
             }
             at = next;
-            if (next >= end) {
-                kind = END;
-            } else if (isLetter(bytes[next])) {
-                takeWord();
-            } else if (isDigit(bytes[next])) {
-                takeNumber();
-            } else {
-                kind = kindOfSign(bytes[next]);
-                next++;
-            }
-        }
-
-        private void takeWord() {
-            while (next < end && isLetter(bytes[next])) {
-                next++;
-            }
-            kind = next - at <= 8 ? WORD : NO_TOKEN;
-        }
-
-        private void takeNumber() {
             value = 0;
-            while (next < end && isDigit(bytes[next])) {
-                value = value * 10 + (bytes[next] - '0');
+            kind = next < end ? kindOf(bytes[next]) : END;
+            if (kind == WORD || kind == NUMBER) {
+                // of a WORD the value is of no matter
+                while (next < end && kindOf(bytes[next]) == kind) {
+                    value = value * 10 + (bytes[next] - '0');
+                    next++;
+                }
+                kind = next - at <= (kind == WORD ? 8 : 4) ? kind : NO_TOKEN;
+            } else if (next < end) {
                 next++;
             }
-            kind = next - at <= 4 ? NUMBER : NO_TOKEN;
         }
 
-        private static boolean isBlank(int sign) {
-            return sign == 32 || sign == 10;
-        }
-
-        private static boolean isLetter(int sign) {
-            return sign >= 'a' && sign <= 'z';
-        }
-
-        private static boolean isDigit(int sign) {
-            return sign >= '0' && sign <= '9';
-        }
-
-        private static int kindOfSign(int sign) {
+        /** Which TOKEN a byte is, or begins. */
+        private static int kindOf(int sign) {
+            if (sign >= 'a' && sign <= 'z') {
+                return WORD;
+            }
+            if (sign >= '0' && sign <= '9') {
+                return NUMBER;
+            }
             switch (sign) {
+                case 32: return BLANK;
+                case 10: return BLANK;
                 case '<': return BELOW;
                 case '>': return ABOVE;
                 case ';': return SEMICOLON;
@@ -626,9 +604,8 @@ public final class SledHouse {
             return true;
         }
 
-        /** Takes a TOKEN of this kind, or tells the FAULT of another one. */
-        boolean take(int wanted) {
-            if (kind != wanted) {
+        boolean takeSemicolon() {
+            if (kind != SEMICOLON) {
                 return fail(FORM);
             }
             advance();
@@ -665,7 +642,7 @@ public final class SledHouse {
                 if (tape.kind == END) {
                     return true;
                 }
-                if (!tape.take(SEMICOLON)) {
+                if (!tape.takeSemicolon()) {
                     return false;
                 }
             }
@@ -711,7 +688,8 @@ public final class SledHouse {
         private boolean readTest(Tape tape, int i) {
             int name = nameOf(tape);
             if (name == NONE) {
-                return tape.fail(tape.kind == WORD && !isOtherWord(tape) ? NO_NAME : FORM);
+                boolean otherWord = tape.isWord("when") || tape.isWord("and") || actOf(tape) != NONE;
+                return tape.fail(tape.kind == WORD && !otherWord ? NO_NAME : FORM);
             }
             if (i >= MOST_TESTS || tests >= names.length) {
                 return tape.fail(MANY);
@@ -723,13 +701,13 @@ public final class SledHouse {
             names[tests] = name;
             above[tests] = tape.kind == ABOVE;
             tape.advance();
+            if (tape.kind != NUMBER) {
+                return tape.fail(FORM);
+            }
             numbers[tests] = tape.value;
             tests++;
-            return tape.take(NUMBER);
-        }
-
-        private static boolean isOtherWord(Tape tape) {
-            return tape.isWord("when") || tape.isWord("and") || actOf(tape) != NONE;
+            tape.advance();
+            return true;
         }
 
         private static int actOf(Tape tape) {
@@ -846,71 +824,66 @@ public final class SledHouse {
         private int many = 0;
 
         boolean readFrom(Tape tape) {
-            int before = many;
-            boolean fine = readAll(tape);
-            if (!fine) {
-                many = before;
-            }
-            return fine;
-        }
-
-        private boolean readAll(Tape tape) {
-            for (int i = 0; i <= MOST_LAWS; i++) {
-                if (!readLaw(tape)) {
+            // LAWS of this text are there only when all of it is well
+            for (int law = many; law <= MOST_LAWS; law++) {
+                if (!readLaw(tape, law)) {
                     return false;
                 }
                 if (tape.kind == END) {
+                    many = law + 1;
                     return true;
                 }
-                if (!tape.take(SEMICOLON)) {
+                if (!tape.takeSemicolon()) {
                     return false;
                 }
             }
             return tape.fail(MANY);
         }
 
-        private boolean readLaw(Tape tape) {
+        private boolean readLaw(Tape tape, int law) {
             boolean ofRest = tape.isWord("rest");
             boolean ofDogs = tape.isWord("dogs");
             if (!ofRest && !ofDogs && !tape.isWord("fine")) {
                 return tape.fail(FORM);
             }
-            if (many >= MOST_LAWS) {
+            if (law >= MOST_LAWS) {
                 return tape.fail(MANY);
             }
-            second[many] = 0;
-            third[many] = 0;
+            second[law] = 0;
+            third[law] = 0;
             tape.advance();
-            if (!readNumber(tape, first)) {
+            if (!readNumber(tape, first, law)) {
                 return false;
             }
             if (ofDogs) {
-                kinds[many] = DOGS_HOME;
-            } else if (!(ofRest ? readPosts(tape) : readSecondFine(tape))) {
-                return false;
+                kinds[law] = DOGS_HOME;
+                return true;
             }
-            many++;
-            return true;
+            return ofRest ? readPosts(tape, law) : readSecondFine(tape, law);
         }
 
-        private boolean readPosts(Tape tape) {
+        private boolean readPosts(Tape tape, int law) {
             if (tape.isWord("from")) {
-                kinds[many] = REST_FROM_TO;
+                kinds[law] = REST_FROM_TO;
                 tape.advance();
-                return readNumber(tape, second) && tape.takeThis("to") && readNumber(tape, third);
+                return readNumber(tape, second, law) && tape.takeThis("to") && readNumber(tape, third, law);
             }
-            kinds[many] = REST_AT;
-            return tape.takeThis("at") && readNumber(tape, second);
+            kinds[law] = REST_AT;
+            return tape.takeThis("at") && readNumber(tape, second, law);
         }
 
-        private boolean readSecondFine(Tape tape) {
-            kinds[many] = FINE;
-            return tape.takeThis("for") && readNumber(tape, second);
+        private boolean readSecondFine(Tape tape, int law) {
+            kinds[law] = FINE;
+            return tape.takeThis("for") && readNumber(tape, second, law);
         }
 
-        private boolean readNumber(Tape tape, int[] row) {
-            row[many] = tape.value;
-            return tape.take(NUMBER);
+        private static boolean readNumber(Tape tape, int[] row, int law) {
+            if (tape.kind != NUMBER) {
+                return tape.fail(FORM);
+            }
+            row[law] = tape.value;
+            tape.advance();
+            return true;
         }
 
         int part(int i, int what) {
@@ -1040,12 +1013,17 @@ public final class SledHouse {
                     all += strength[i];
                 }
             }
-            return share(all, pulling);
+            return pulling > 0 ? all / pulling : 0;
         }
 
         int leastStrength() {
-            int dog = weakest();
-            return dog == NONE ? 0 : strength[dog];
+            int least = NONE;
+            for (int i = 0; i < many; i++) {
+                if (state[i] == PULLS && (least == NONE || strength[i] < least)) {
+                    least = strength[i];
+                }
+            }
+            return Math.max(0, least);
         }
 
         private int weakest() {
