@@ -1,8 +1,14 @@
+import java.io.IOException;
 import java.nio.charset.StandardCharsets;
+import java.nio.file.Files;
+import java.nio.file.Path;
 
 /** What the tests of the project share: counting wrong answers, and texts for THE TAPE. */
 final class Checks {
+    private static final Path DOCUMENT = Path.of("../shared/DOC.md");
     private static int wrong = 0;
+    private static String sentence = "";
+    private static String document = "";
 
     private Checks() {
     }
@@ -10,8 +16,26 @@ final class Checks {
     static void due(String call, long got, long want) {
         if (got != want) {
             wrong++;
-            System.out.println(call + " answered " + got + ", due is " + want);
+            System.out.println(sentence + call + " answered " + got + ", due is " + want);
         }
+    }
+
+    /** The checks that follow hold this sentence, which the document is to have word by word. */
+    static void sentence(String words) {
+        sentence = "";
+        due("the document says: " + words, document().contains(words), true);
+        sentence = "[" + words + "] ";
+    }
+
+    private static String document() {
+        if (document.isEmpty()) {
+            try {
+                document = Files.readString(DOCUMENT).replaceAll("\\s+", " ");
+            } catch (IOException e) {
+                document = "there is no " + DOCUMENT;
+            }
+        }
+        return document;
     }
 
     static void due(String call, boolean got, boolean want) {
