@@ -7,6 +7,7 @@ public final class EdgeLawTest {
         restAtLast();
         restAtNone();
         restFromTo();
+        leastOfFromTo();
         dogsThatPull();
         fines();
         greatestResult();
@@ -75,16 +76,21 @@ public final class EdgeLawTest {
     }
 
     private static void restFromTo() {
-        Checks.sentence("of from to: the least of what is less at one of them");
+        Checks.sentence("rest NUMBER from NUMBER to NUMBER: at one of these checkpoints at least.");
+        lacks("rest 0 from 0 to 2", 0);
         lacks("rest 3 from 0 to 0", 0);
+        lacks("rest 3 from 0 to 1", 0);
+        lacks("rest 5 from 1 to 2", 0);
+        lacks("rest 5 from 0 to 2", 0);
+    }
+
+    private static void leastOfFromTo() {
+        Checks.sentence("of from to: the least of what is less at one of them");
         lacks("rest 4 from 0 to 0", 1);
         lacks("rest 4 from 0 to 1", 1);
         lacks("rest 4 from 1 to 1", 4);
-        lacks("rest 5 from 1 to 2", 0);
         lacks("rest 6 from 1 to 2", 1);
         lacks("rest 6 from 0 to 2", 1);
-        lacks("rest 5 from 0 to 2", 0);
-        lacks("rest 0 from 0 to 2", 0);
         lacks("rest 9999 from 0 to 2", 9994);
     }
 
@@ -122,6 +128,7 @@ public final class EdgeLawTest {
         Checks.due("the latest", rested("fine 0 for 1;fine 1 for 0;" + lacking).result(0), 11 + 9);
         Checks.due("none", rested(lacking + ";fine 0 for 0").result(0), 11);
         SledHouse x = rested(lacking + ";fine 3 for 7");
+        Checks.sentence("What LACKS of a HOME TEAM by LAW i (0 of a fine)");
         Checks.due("of a fine", x.lacks(0, 4), 0);
         Checks.laws(x, "fine 5 for 100");
         Checks.due("one that came behind the race", x.result(0), 11 + 5 * 9 + 100 * 2);
@@ -150,6 +157,7 @@ public final class EdgeLawTest {
             Checks.due("result(" + team + ")", x.result(team), -1);
         }
         Checks.due("none at all", new SledHouse().result(0), -1);
+        Checks.sentence("RESULT: IN of the last checkpoint less START and the PENALTY more.");
         // HOME in the first STEP of its START: the least RESULT
         x = Checks.house(Checks.legs(10, 100), "go");
         x.team(4, 20, 0, 100, 0);
@@ -274,16 +282,18 @@ public final class EdgeLawTest {
     }
 
     private static void arrivals() {
-        Checks.sentence("came to a checkpoint up to a STEP (IN at most it); NONE for no such checkpoint.");
         SledHouse x = Checks.house(Checks.legs(23, 100, 23, 100), "go");
         x.team(4, 20, 0, 3, 0);
         x.team(4, 20, 0, 3, 0);
         x.team(4, 20, 0, 9, 0);
+        Checks.sentence("How many TEAMS (that don't WAIT)");
+        Checks.due("all WAIT", x.came(0, 2000), 0);
         x.run(9);
         int[][] want = {{0, 2, 0}, {0, 3, 2}, {0, 8, 2}, {0, 9, 2}, {0, 2000, 2}, {1, 3, 0}, {1, 4, 2}, {2, 4, 0}, {2, 5, 2}};
         for (int[] one : want) {
             Checks.due("one WAITS: came(" + one[0] + ", " + one[1] + ")", x.came(one[0], one[1]), one[2]);
         }
+        Checks.sentence("came to a checkpoint up to a STEP (IN at most it); NONE for no such checkpoint.");
         x.run(1);
         Checks.due("came(0, 8)", x.came(0, 8), 2);
         Checks.due("came(0, 9)", x.came(0, 9), 3);

@@ -11,6 +11,7 @@ public final class EdgeStepTest {
         hourOfTheDay();
         postsAndLeft();
         colds();
+        weakAndMean();
         mealsDogsLoad();
         runAndRest();
         numbersAtTheirEnds();
@@ -25,6 +26,7 @@ public final class EdgeStepTest {
         warmLoss();
         neverBelow();
         lengths();
+        atTheCheckpoint();
         endOfLeg();
         noLength();
         out();
@@ -207,6 +209,33 @@ public final class EdgeStepTest {
         }
     }
 
+    /** One that was left with less STRENGTH than those that pull counts in neither. */
+    private static void weakAndMean() {
+        Checks.sentence("weak (the least STRENGTH of DOGS that pull), mean (their mean, downwards)");
+        for (String name : new String[] {"weak", "mean"}) {
+            for (int value = 999; value <= 1001; value++) {
+                SledHouse x = plain("when " + name + " < " + value + " stay; feed");
+                x.run(1);
+                Checks.due(name + " < " + value + " at first", x.did(0), value == 1001 ? 0 : 1);
+            }
+            SledHouse x = Checks.house(Checks.legs(46, 100, 100, 100), "when run < 2 and rest < 1 go; leave",
+                "when " + name + " > 994 and " + name + " < 996 stay; feed");
+            x.team(4, 20, 0, 0, 0);
+            x.run(3);
+            Checks.due("the left one", x.dog(0, 0, 0), 980);
+            x.follow(0, 1);
+            x.run(1);
+            Checks.due(name + " is that of the others", x.did(0), 0);
+        }
+        // the least there is: HARDNESS 75 costs 9, so 1 is left behind 111 STEPS
+        SledHouse x = Checks.house(Checks.legs(2000, 75), "when weak < 2 and weak > 0 and mean < 2 and mean > 0 stay; go");
+        x.team(4, 20, 0, 0, 0);
+        x.run(111);
+        Checks.due("it went", x.did(0), 1);
+        x.run(1);
+        Checks.due("it stays with 1", x.did(0), 0);
+    }
+
     private static void mealsDogsLoad() {
         Checks.sentence("meals, dogs (that pull)");
         SledHouse x = house("when meals > 59 feed; when meals > 58 feed; when dogs > 15 leave; when dogs > 14 leave;"
@@ -241,7 +270,9 @@ public final class EdgeStepTest {
             x.run(1);
             Checks.due("RUN goes on", x.about(0, 9), 2);
         }
-        // RUN and REST go on over a checkpoint
+        Checks.sentence("RUN: STEPS that it has gone since it last did something else; REST: STEPS that it has done"
+            + " something else since it last went");
+        // both go on over a checkpoint
         SledHouse x = Checks.house(Checks.legs(10, 50, 10, 50, 2000, 50), "when run > 3 stay; go");
         x.team(4, 20, 0, 0, 0);
         x.run(4);
@@ -466,6 +497,24 @@ public final class EdgeStepTest {
         Checks.due("LOAD 300", wayOf(4, 300, 200), 3);
     }
 
+    private static void atTheCheckpoint() {
+        Checks.sentence("so many LENGTHS from its beginning (0: at the checkpoint)");
+        SledHouse x = Checks.house(Checks.legs(46, 100, 46, 100), "go", "leave");
+        x.team(16, 20, 0, 0, 0);
+        // 15 DOGS: 445 * 20 / 320 = 27; 14 DOGS: 415 * 20 / 300 = 27
+        int[] lengths = {0, 27, 0, 27};
+        for (int step = 0; step < lengths.length; step++) {
+            Checks.due("LENGTHS ahead of STEP " + 2 * step, x.about(0, 2), lengths[step]);
+            int left = x.about(0, 6);
+            x.follow(0, 1);
+            x.run(1);
+            Checks.due("one is left only there", x.about(0, 6), lengths[step] == 0 ? left + 1 : left);
+            x.follow(0, 0);
+            x.run(1);
+        }
+        Checks.due("HOME", x.about(0, 0), 2);
+    }
+
     private static void endOfLeg() {
         Checks.sentence("at the LEG's end it is at the next checkpoint (what is more is lost)");
         int[][] want = {{22, 1, 0, 22}, {23, 1, 0, 23}, {24, 0, 23, 23}};
@@ -528,8 +577,10 @@ public final class EdgeStepTest {
     }
 
     private static void out() {
-        Checks.sentence("With no DOG that pulls it is OUT.");
+        Checks.sentence("and at the last checkpoint HOME, or OUT when no DOG is left that pulls");
         SledHouse x = Houses.over();
+        Checks.about(x, 0, 2, 1, 0, 300, 4, 0, 0, 20, 0, x.time(0, 1, false), 0, 0, 0);
+        Checks.sentence("With no DOG that pulls it is OUT.");
         Checks.about(x, 1, 3, 0, x.about(1, 2), x.about(1, 2), 0, 4, 0, 400, 0, 48, 0, 0, 0);
         Checks.due("result", x.result(1), -1);
         Checks.due("lacks", x.lacks(1, 0), -1);

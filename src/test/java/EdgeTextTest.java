@@ -72,13 +72,14 @@ public final class EdgeTextTest {
     }
 
     private static void fullTape() {
-        Checks.sentence("NONE, and none comes, if there would be more than 400.");
+        Checks.sentence("THE TAPE has 400 bytes");
         // 10 RULES of 4 TESTS, 399 bytes and a blank: as many TESTS as a text has room for
         String text = (FOUR_TESTS + "go;").repeat(9) + FOUR_TESTS + "go ";
         Checks.due("bytes", text.length(), 400);
         SledHouse x = new SledHouse();
         Checks.tape(x, text);
         Checks.due("count(6)", x.count(6), 400);
+        Checks.sentence("NONE, and none comes, if there would be more than 400.");
         for (int i = 0; i < 3; i++) {
             Checks.due("feed beyond 400", x.feed(0x67676767, 0, 0, 0, 0), -1);
             Checks.due("count(6)", x.count(6), 400);
@@ -230,6 +231,11 @@ public final class EdgeTextTest {
             x = maker.get();
             int many = x.count(2);
             Checks.granted(x, "a PLAN at any time", Checks.plan(x, "go"), many);
+            // what a faulty text began with isn't seen in the PLAN that comes then
+            Checks.plan(x, "stay; when run > 1 and rest > 2 and foo");
+            Checks.granted(x, "plan", Checks.plan(x, "when load > 9 feed"), many + 1);
+            Checks.due("RULES", x.planned(many + 1, 0), 1);
+            Checks.due("TESTS", x.planned(many + 1, 1), 1);
         }
     }
 
@@ -258,7 +264,7 @@ public final class EdgeTextTest {
             Checks.granted(x, "LAWS at any time", Checks.laws(x, "dogs 1"), many + 1);
             // what a faulty text began with isn't seen in the LAWS that come then
             x = maker.get();
-            Checks.laws(x, "rest 7 from 8 to 9; go");
+            Checks.laws(x, "rest 7 from 8 to 9; rest 7 from 8 to 9; go");
             Checks.granted(x, "laws", Checks.laws(x, "rest 5 at 6; dogs 4"), many + 2);
             int[] want = {0, 5, 6, 0, 2, 4, 0, 0};
             for (int i = 0; i < 8; i++) {
@@ -277,6 +283,7 @@ public final class EdgeTextTest {
         faultOf(false, TEN_LAWS + ";7", 1, 70);
         faultOf(false, TEN_LAWS + ";", 1, 70);
         faultOf(false, TEN_LAWS + " dogs", 1, 70);
+        Checks.sentence("LAWS 10.");
         SledHouse x = new SledHouse();
         Checks.granted(x, "nine", Checks.laws(x, TEN_LAWS.substring(7)), 9);
         Checks.refused(x, "two more", Checks.laws(x, "dogs 2;dogs 2"), 4);
