@@ -227,6 +227,11 @@ public final class EdgeStepTest {
             x.run(1);
             Checks.due(name + " is that of the others", x.did(0), 0);
         }
+        // of one DOG alone
+        SledHouse y = plain("when dogs > 1 leave; when mean > 999 and mean < 1001 and weak > 999 and weak < 1001 stay; go");
+        y.run(4);
+        Checks.due("that pull", y.about(0, 4), 1);
+        Checks.due("its own", y.did(0), 1);
         // the least there is: HARDNESS 75 costs 9, so 1 is left behind 111 STEPS
         SledHouse x = Checks.house(Checks.legs(2000, 75), "when weak < 2 and weak > 0 and mean < 2 and mean > 0 stay; go");
         x.team(4, 20, 0, 0, 0);
