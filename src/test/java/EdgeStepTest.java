@@ -17,6 +17,7 @@ public final class EdgeStepTest {
         numbersAtTheirEnds();
         allTests();
         noRule();
+        eachAct();
         feeding();
         leaving();
         weakest();
@@ -325,6 +326,36 @@ public final class EdgeStepTest {
             Checks.due("did(" + team + ")", x.did(team), -1);
         }
         Checks.due("did(1)", x.did(1), -1);
+    }
+
+    /** Each ACT does its own and nothing of the others, where all of them could be done. */
+    private static void eachAct() {
+        Checks.sentence("ACT: go, stay, feed, leave.");
+        String[] acts = {"go", "stay", "feed", "leave"};
+        // MEALS, DOGS left, RUN, REST, STRENGTH of the last DOG (940 before), LENGTHS
+        int[][] want = {{2, 0, 7, 0, 930, 22}, {2, 0, 0, 1, 955, 0}, {1, 0, 0, 1, 1000, 0}, {2, 1, 0, 1, 955, 0}};
+        int[] what = {8, 6, 9, 10};
+        for (int act = 0; act < 4; act++) {
+            // 114 and 22 LENGTHS more in 6 STEPS of go: at checkpoint 1
+            SledHouse x = Checks.house(Checks.legs(136, 100, 2000, 100), "when hour < 1 go; " + acts[act]);
+            x.team(4, 20, 2, 0, 0);
+            x.run(6);
+            Checks.due("at checkpoint 1", x.about(0, 1), 1);
+            x.run(1);
+            for (int i = 0; i < 4; i++) {
+                Checks.due(acts[act] + ": about(0, " + what[i] + ")", x.about(0, what[i]), want[act][i]);
+            }
+            Checks.due(acts[act] + ": STRENGTH", x.dog(0, 3, 0), want[act][4]);
+            Checks.due(acts[act] + ": LENGTHS", x.about(0, 2), want[act][5]);
+            Checks.due(acts[act] + ": AWAY", x.time(0, 1, true), act == 0 ? 6 : -1);
+        }
+        // what isn't done there is as stay, not as another ACT
+        SledHouse x = house("when run < 1 and rest < 1 go; leave", 4, 20, 2, 0);
+        x.run(2);
+        Checks.due("leave elsewhere: MEALS", x.about(0, 8), 2);
+        x = house("feed", 4, 20, 0, 0);
+        x.run(1);
+        Checks.due("feed without MEALS: DOGS left", x.about(0, 6), 0);
     }
 
     private static void feeding() {
