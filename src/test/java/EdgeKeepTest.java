@@ -19,6 +19,7 @@ public final class EdgeKeepTest {
         keepOnlyKeeps();
         nothingKept();
         asItWasKept();
+        timesAsKept();
         backAgain();
         inPlaceOfIt();
         tapeIsNotKept();
@@ -217,6 +218,31 @@ public final class EdgeKeepTest {
                 x.keep();
                 x.back();
             }));
+        }
+    }
+
+    /** IN and AWAY of all 13 checkpoints that there may be, kept behind each STEP of a race with a STEP for each LEG. */
+    private static void timesAsKept() {
+        Checks.sentence("All is as it was KEPT");
+        for (int steps = 0; steps <= 12; steps++) {
+            SledHouse x = onlyPlan();
+            for (int leg = 0; leg < 12; leg++) {
+                x.leg(10, 50);
+            }
+            x.team(4, 20, 0, 0, 0);
+            if (steps > 0) {
+                x.run(steps);
+            }
+            x.keep();
+            x.run(500);
+            Checks.due("HOME", x.about(0, 0), 2);
+            x.back();
+            for (int post = 0; post <= 12; post++) {
+                boolean wasThere = steps > 0 && post <= steps;
+                Checks.due("IN of " + post + " kept at " + steps, x.time(0, post, false), wasThere ? post : -1);
+                Checks.due("AWAY of " + post + " kept at " + steps, x.time(0, post, true), post < steps ? post : -1);
+                Checks.due("came to " + post + " kept at " + steps, x.came(post, 2000), wasThere ? 1 : 0);
+            }
         }
     }
 

@@ -97,6 +97,9 @@ final class Twins {
         for (int post = 0; post < 4; post++) {
             all.add("time(" + team + ", " + post + ") " + x.time(team, post, false) + " " + x.time(team, post, true));
         }
+        int last = x.count(0);
+        all.add("IN of the last, " + team + " " + x.time(team, last, false));
+        all.add("AWAY of the last but one, " + team + " " + x.time(team, last - 1, true));
         int steps = x.count(4);
         for (int step = 0; step < steps; step += Math.max(1, steps / 2 - 1)) {
             all.add("spot(" + team + ", " + step + ") " + x.spot(team, step, false) + " " + x.spot(team, step, true));
