@@ -42,6 +42,12 @@ final class Checks {
         due(call, got ? 1 : 0, want ? 1 : 0);
     }
 
+    /** Something is wrong that isn't an answer of the class. */
+    static void fail(String what) {
+        wrong++;
+        System.out.println(sentence + what);
+    }
+
     /** A call that is refused (NONE) with this TROUBLE. */
     static void refused(SledHouse x, String call, int got, int trouble) {
         due(call, got, SledHouse.NONE);
